@@ -209,7 +209,7 @@ public final class AccentShop {
         if (!told.hasPerson(person)) {
             return BAD;
         }
-        findFirstDays(days, told);
+        findFirstDays(days);
         return firstDays[person];
     }
 
@@ -286,7 +286,7 @@ public final class AccentShop {
             for (int b = a + 1; b < told.accents; b++) {
                 tried.become(told);
                 tried.changeDrawers(a, b);
-                trial.begin(tried);
+                trial.begin();
                 trial.go(LAST_DAY);
                 int lost = Integer.bitCount(trial.astrayBits());
                 if (first == NONE || lost < fewest) {
@@ -394,11 +394,11 @@ public final class AccentShop {
         }
         tryYear(seed, n);
         if (what == 0) {
-            trial.begin(tried);
+            trial.begin();
             trial.go(LAST_DAY);
             return Integer.bitCount(trial.astrayBits());
         }
-        return findFirstDays(trial, tried);
+        return findFirstDays(trial);
     }
 
     // ---- sheets
@@ -501,7 +501,7 @@ public final class AccentShop {
             case 5:
                 return Integer.bitCount(astray());
             case 6:
-                return findFirstDays(days, told);
+                return findFirstDays(days);
             case 7:
                 return heard.size;
             case 8:
@@ -596,13 +596,13 @@ public final class AccentShop {
 
     /** Nothing kept from before a change of what was told may outlive it. */
     private void beginAgain() {
-        days.begin(told);
+        days.begin();
         straysKnown = false;
     }
 
     private void standBehind(int day) {
         if (days.day > day) {
-            days.begin(told);
+            days.begin();
         }
         days.go(day);
     }
@@ -610,20 +610,20 @@ public final class AccentShop {
     private void tryHiringMore(int day, int person, int accent) {
         tried.become(told);
         tried.addHiring(day, person, accent);
-        trial.begin(tried);
+        trial.begin();
         trial.go(LAST_DAY);
     }
 
     /** Finds when each becomes another, from the first day on: how many do. */
-    private int findFirstDays(Walk walk, Setting setting) {
+    private int findFirstDays(Walk walk) {
         int others = 0;
         for (int p = 0; p < MOST; p++) {
             firstDays[p] = NONE;
         }
-        walk.begin(setting);
+        walk.begin();
         for (int day = 0; day < DAYS; day++) {
             walk.go(day);
-            for (int p = 0; p < setting.people; p++) {
+            for (int p = 0; p < walk.setting.people; p++) {
                 if (firstDays[p] == NONE && walk.isAnother(p)) {
                     firstDays[p] = day;
                     others++;
@@ -649,7 +649,7 @@ public final class AccentShop {
     private void tallyAsOwn(int person, int accent) {
         tried.become(told);
         tried.owns[person] = accent;
-        trial.begin(tried);
+        trial.begin();
         for (int day = 0; day < DAYS; day++) {
             trial.go(day);
             tallyTaken(trial, person);
@@ -697,7 +697,7 @@ public final class AccentShop {
         // The later one goes first, so that the number of the other still fits.
         tried.dropHiring(more);
         tried.dropHiring(k);
-        trial.begin(tried);
+        trial.begin();
         trial.go(LAST_DAY);
         return trial.astrayBits() == 0;
     }
@@ -705,7 +705,7 @@ public final class AccentShop {
     /** Whether all that was heard comes out so in what is tried. */
     private boolean comesOut() {
         int latest = heard.latestDay();
-        trial.begin(tried);
+        trial.begin();
         for (int day = 0; day <= latest; day++) {
             trial.go(day);
             if (!heard.agreesWith(trial)) {
@@ -746,7 +746,7 @@ public final class AccentShop {
         for (int subset = 0; subset < 1 << told.hirings && subset < strays.length; subset++) {
             tried.become(told);
             tried.keepHirings(subset);
-            trial.begin(tried);
+            trial.begin();
             trial.go(LAST_DAY);
             strays[subset] = trial.astrayBits();
         }
@@ -975,7 +975,7 @@ public final class AccentShop {
 
     /** How everyone speaks and what the drawers say, behind one day after the other. */
     private static final class Walk {
-        Setting setting;
+        final Setting setting;
         /** The day behind which it stands; NONE ahead of the first. */
         int day;
         final int[] marks = new int[MOST * SOUNDS];
@@ -983,20 +983,20 @@ public final class AccentShop {
         final int[] wears = new int[MOST];
         final int[] wearers = new int[MOST];
 
-        Walk(Setting first) {
-            setting = first;
-            day = NONE;
+        Walk(Setting setting) {
+            this.setting = setting;
+            this.day = NONE;
         }
 
-        void begin(Setting from) {
-            setting = from;
+        /** Stands ahead of the first day, by the setting as it is now. */
+        void begin() {
             day = NONE;
-            System.arraycopy(from.marks, 0, marks, 0, MOST * SOUNDS);
-            for (int p = 0; p < from.people; p++) {
-                int own = from.owns[p];
+            System.arraycopy(setting.marks, 0, marks, 0, MOST * SOUNDS);
+            for (int p = 0; p < setting.people; p++) {
+                int own = setting.owns[p];
                 wears[p] = own;
                 for (int s = 0; s < SOUNDS; s++) {
-                    speech[p * SOUNDS + s] = from.hasAccent(own) ? marks[own * SOUNDS + s] : MIDDLE;
+                    speech[p * SOUNDS + s] = setting.hasAccent(own) ? marks[own * SOUNDS + s] : MIDDLE;
                 }
             }
         }

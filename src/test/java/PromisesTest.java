@@ -275,6 +275,10 @@ public final class PromisesTest {
         due("wrong ahead of full", x.hire(30, 0, 1), BAD);
         due("still eight", x.count(4), 8);
         due("it is done", x.at(0, 0, 5), 1);
+        AccentShop y = shop(TWO, "c0");
+        due("in its own", y.at(29, 0, 6), 0);
+        y.hire(0, 0, 1);
+        due("out of it", y.at(29, 0, 6), 1);
     }
 
     private static void back() {
@@ -300,6 +304,11 @@ public final class PromisesTest {
         due("two whole ones", x.read(0), 2);
         due("in place of those told", x.at(4, 0, 5), 0);
         due("in place of those told", x.at(5, 0, 5), 1);
+        due("out of its own", x.at(29, 0, 6), 1);
+        x.sheet(1, 0, 3);
+        layAll(x, 1, 0, 26, 0, 1);
+        due("one, and no more items", x.read(1), 1);
+        due("so late that it is home", x.at(29, 0, 6), 0);
         x.sheet(1, 0, 12);
         layAll(x, 1, 0, 1, 0, 1, 2, -1, 0, 3, 0, 1);
         due("as long as each may be", x.read(1), 1);
@@ -442,6 +451,10 @@ public final class PromisesTest {
         due("its next is worn", x.drawer(20, 1, 2), 9);
         due("worn", x.drawer(20, 2, 2), 0);
         due("not worn, nor its next", x.drawer(20, 0, 2), 1);
+        AccentShop eight = shop(EIGHT, "p7;p7;p6");
+        due("two wear the eighth", eight.drawer(0, 7, 5), 2);
+        due("still two", eight.drawer(29, 7, 5), 2);
+        due("one the seventh", eight.drawer(29, 6, 5), 1);
         AccentShop y = shop("y00000;k99999", "p3", 0, 1, 0);
         due("a hiring of nobody is nothing", y.drawer(6, 0, 0), 1);
         due("nobody wears it", y.drawer(6, 0, 5), 0);
@@ -467,6 +480,10 @@ public final class PromisesTest {
         due("becomes(4)", x.becomes(4), BAD);
         AccentShop like = shop("k00000;k00000", "p0", 3, 0, 1, 4, 0, 0);
         due("one just like it", like.becomes(0), 3);
+        AccentShop eight = shop("k00000;k00000", "p0;p0;p0;p0;p0;p0;p0;p0", 0, 7, 1);
+        due("on the first day", eight.becomes(7), 0);
+        eight.back();
+        due("no more", eight.becomes(7), NONE);
         due("not there", shop(TWO, "c0", 0, 0, 5).becomes(0), NONE);
         due("its own is not there", shop("k55555", "c5", 2, 0, 0).becomes(0), 2);
         due("the last day", shop(TWO, "c0", 21, 0, 1).becomes(0), 29);
@@ -491,6 +508,13 @@ public final class PromisesTest {
         due("most", shop("k00000;k55555;k99999", "p0;p2;p2").crowd(), 2);
         due("of like ones the least", shop("k00000;k55555;k99999", "p2;p1;p1;p2").crowd(), 1);
         due("behind day 29", shop(TWO, "c0;c1", 0, 0, 1).crowd(), 1);
+        due("one alone", shop("k00000;k55555;k99999", "p2").crowd(), 2);
+        due("one alone", shop("k00000;k55555;k99999", "p0").crowd(), 0);
+        AccentShop x = shop(TWO, "c0;c0;c1");
+        due("two of three", x.crowd(), 0);
+        x.wipe(1);
+        typeAll(x, 1, "c1");
+        due("another one alone", x.crowd(), 1);
     }
 
     private static void dress() {
@@ -520,6 +544,11 @@ public final class PromisesTest {
         due("ahead of them it is nothing", full.dress(0, 1, 8, 1), 45);
         due("no hiring more than were told", full.count(4), 8);
         due("what was told is told", full.at(29, 0, 6), 0);
+        AccentShop eight = shop("k00000;k11111;k22222;k33333;k44444;k55555;k66666;k98989", "p0;p1;p2;p3;p4;p5;p6;c0",
+                0, 0, 0, 0, 1, 1, 0, 2, 2, 0, 3, 3, 0, 4, 4, 0, 5, 5, 0, 6, 6, 28, 7, 1);
+        due("the eighth in the eighth", eight.dress(7, 7, 0, 0), 7);
+        due("but for the last two days", eight.dress(7, 7, 0, 1), 10);
+        due("on the last day but one", eight.dress(7, 7, 28, 1), 33);
         AccentShop drift = shop("y00000;k90000;k00000", "c2");
         due("worn, the drawer does not go on", drift.dress(0, 0, 0, 0), 0);
         due("worn, the drawer does not go on", drift.dress(0, 0, 0, 1), 0);
@@ -540,6 +569,7 @@ public final class PromisesTest {
         AccentShop full = shop(TWO, "c0", 0, 0, 1, 9, 7, 0, 9, 7, 0, 9, 7, 0, 9, 7, 0, 9, 7, 0, 9, 7, 0, 25, 0, 1);
         due("whatever room, behind all others", full.home(0), 25);
         due("no hiring more", full.count(4), 8);
+        due("the eighth hiring sends it out", full.at(29, 0, 6), 1);
         due("home(-1)", full.home(-1), BAD);
         due("home(1)", full.home(1), BAD);
     }
@@ -561,6 +591,10 @@ public final class PromisesTest {
         dueTray("its own that is not there stays so", shop(TWO, "c5"), 0, 1, 1);
         dueTray("the sort goes with it", shop("g00000;k20000", "c0", 0, 0, 7), 0, 1, 0);
         dueTray("its next is another then", shop("g00000;k90000;k00000", "p2"), 0, 2, 0);
+        // Frozen between two, it is lost to the one that comes ahead of its own.
+        dueTray("by the last day", shop("k00000;k80000", "c1", 0, 0, 0, 8, 0, 1, 12, 0, 7), 0, 1, 0);
+        dueTray("by the last day", shop("k00000;k90000", "c0", 25, 0, 1), 0, 1, 1);
+        dueTray("by the last day", shop("k00000;k80000;k00009", "c0", 26, 0, 1), 1, 2, 0);
         AccentShop x = shop(TWO, "c0");
         due("tray(-1)", x.tray(-1), BAD);
         due("tray(3)", x.tray(3), BAD);
@@ -641,6 +675,11 @@ public final class PromisesTest {
         due("and the other was", y.never(), 1);
         y.hear(0, 2, 0, 5);
         due("one that there is not: never", y.never(), 0);
+        AccentShop z = shop("k01234;k99999", "c1;c0", 5, 1, 1);
+        z.hear(29, 1, 4, 4);
+        z.hear(29, 1, 0, 0);
+        z.hear(29, 0, 4, 9);
+        due("sound by sound", z.never(), 1);
         due("no hirings", shop(TWO, "c0").never(), 0);
         due("eight", shop(TWO, "c0", 0, 0, 0, 0, 0, 0, 0, 0, 0, 0, 0, 0,
                 0, 0, 0, 0, 0, 0, 0, 0, 0, 0, 0, 0).never(), 255);
@@ -695,6 +734,14 @@ public final class PromisesTest {
         due("no accent", x.was(0, 0), 0);
         due("no accent", x.ask(0), 0);
         due("no accents", shop("", "c0").ask(0), 0);
+        AccentShop last = shop("k00000;k11100;k99970", "c0", 0, 0, 2, 1, 0, 7, 27, 0, 2);
+        last.hear(0, 0, 3, 1);
+        due("two accents", last.was(0, 0), 3);
+        due("told apart on the last day", last.ask(0), 29);
+        last.back();
+        due("never told apart", last.ask(0), 0);
+        last.back();
+        due("told apart on the fourth", last.ask(0), 3);
         due("ask(-1)", x.ask(-1), BAD);
         due("ask(1)", x.ask(1), BAD);
         due("as told", x.person(0, 1), 2);
@@ -725,6 +772,8 @@ public final class PromisesTest {
         dueChance("one of eight", eight, 1, 0, 1732076671L, 4294967296L);
         dueChance("all of eight", eight, 16, 0, 1, 1);
         dueChance("no accents", shop("", "c0", 0, 0, 1), 8, 0, 0, 1);
+        dueChance("behind the last day", shop(TWO, "c0", 25, 0, 1), 2, 0, 1, 8);
+        dueChance("a day too late", shop(TWO, "c0", 26, 0, 1), 2, 0, 0, 1);
         AccentShop y = shop(TWO, "c0", 0, 0, 1);
         dueChance("by what is told", y, 8, 0, 1, 2);
         typeAll(y, 0, ";");
@@ -1006,6 +1055,11 @@ public final class PromisesTest {
         due("by calls", x.digest(), digestByCalls(x));
         x.hear(4, 1, 0, 8);
         due("by calls, one heard", x.digest(), digestByCalls(x));
+        AccentShop asked = shop("y00000;k90000;k00000;k99999", "p2;c2", 0, 1, 3);
+        asked.hear(0, 0, 1, 0);
+        due("ask() is no 0", asked.ask(0), 6);
+        due("refuse(0) is no refuse(1)", asked.refuse(0), 0);
+        due("by calls, one to ask, one to refuse", asked.digest(), digestByCalls(asked));
         long before = x.digest();
         x.lose(0);
         x.sheet(1, 1, 4);
