@@ -569,6 +569,8 @@ public final class PromisesTest {
         AccentShop full = shop(TWO, "c0", 0, 0, 1, 9, 7, 0, 9, 7, 0, 9, 7, 0, 9, 7, 0, 9, 7, 0, 9, 7, 0, 25, 0, 1);
         due("whatever room, behind all others", full.home(0), 25);
         due("no hiring more", full.count(4), 8);
+        due("the first day alone", shop("g54000;g89011;y16010;y97010", "l1;c3",
+                0, 0, 0, 2, 0, 2, 17, 0, 3).home(0), 0);
         due("the eighth hiring sends it out", full.at(29, 0, 6), 1);
         due("home(-1)", full.home(-1), BAD);
         due("home(1)", full.home(1), BAD);
@@ -595,6 +597,8 @@ public final class PromisesTest {
         dueTray("by the last day", shop("k00000;k80000", "c1", 0, 0, 0, 8, 0, 1, 12, 0, 7), 0, 1, 0);
         dueTray("by the last day", shop("k00000;k90000", "c0", 25, 0, 1), 0, 1, 1);
         dueTray("by the last day", shop("k00000;k80000;k00009", "c0", 26, 0, 1), 1, 2, 0);
+        dueTray("both sorts go", shop("g30000;k20000;g11000;y32000", "l0", 27, 0, 4, 1, 0, 5), 2, 3, 0);
+        dueTray("eight", shop("g12000;k01000;k22000;g02000;g20000;g00000;k00000;y21000", "p0", 18, 0, 7), 2, 7, 0);
         AccentShop x = shop(TWO, "c0");
         due("tray(-1)", x.tray(-1), BAD);
         due("tray(3)", x.tray(3), BAD);
@@ -738,6 +742,14 @@ public final class PromisesTest {
         last.hear(0, 0, 3, 1);
         due("two accents", last.was(0, 0), 3);
         due("told apart on the last day", last.ask(0), 29);
+        AccentShop second = shop("y39010;k38010;y30000", "p1", 0, 0, 2, 1, 0, 0);
+        second.hear(0, 0, 3, 1);
+        due("told apart on the second day", second.ask(0), 1);
+        AccentShop eight = shop("y33000;k00000;k02000;g23000;k20000;y11000;k22000;g22000", "p2;l2",
+                12, 1, 0, 1, 1, 2);
+        eight.hear(0, 0, 1, 2);
+        due("the eighth among them", eight.was(0, 0), 196);
+        due("the eighth among them", eight.ask(0), 13);
         last.back();
         due("never told apart", last.ask(0), 0);
         last.back();
