@@ -1,6 +1,6 @@
 import java.math.BigInteger;
 
-/** Promise by promise: ordinary inputs, the edges that the document names, wrong inputs; each answer reckoned by hand. */
+/** Promise by promise: ordinary inputs, the edges that the document names, wrong inputs; answers reckoned by hand, a few by ModelTest's model. */
 public final class PromisesTest {
     private static final int NONE = -1, BAD = -2, NOT = -3, FULL = -4;
     private static final int NULL = -11, INDEX = -12, CAST = -13, STORE = -14, SIZE = -15;
