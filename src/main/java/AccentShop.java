@@ -166,7 +166,7 @@ public final class AccentShop {
         if (from.form == LOST) {
             return finding(NULL);
         }
-        told.hirings = 0;
+        int before = told.hirings;
         for (int i = 0; i + ITEMS_OF_HIRING <= from.size && told.hirings < MOST; i += ITEMS_OF_HIRING) {
             if (!mayBeHired(from.items[i], from.items[i + 1], from.items[i + 2])) {
                 break;
@@ -174,7 +174,7 @@ public final class AccentShop {
             told.addHiring(from.items[i], from.items[i + 1], from.items[i + 2]);
         }
         beginAgain();
-        return told.hirings;
+        return told.hirings - before;
     }
 
     // ---- days

@@ -711,18 +711,20 @@ public final class ModelTest {
         long read(int s) {
             in(s, 0, 3);
             int n = java.lang.reflect.Array.getLength(sheets[s]);
-            hirings.clear();
-            for (int k = 0; k < n / 3 && k < 8; k++) {
+            int came = 0;
+            for (int k = 0; k < n / 3; k++) {
                 int[] h = new int[3];
                 for (int i = 0; i < 3; i++) {
                     h[i] = java.lang.reflect.Array.getInt(sheets[s], 3 * k + i);
                 }
-                if (h[0] < 0 || h[0] > 29 || h[1] < 0 || h[1] > 7 || h[2] < 0 || h[2] > 7) {
-                    return hirings.size();
+                boolean isOne = h[0] >= 0 && h[0] <= 29 && h[1] >= 0 && h[1] <= 7 && h[2] >= 0 && h[2] <= 7;
+                if (!isOne || hirings.size() == 8) {
+                    return came;
                 }
                 hirings.add(h);
+                came++;
             }
-            return hirings.size();
+            return came;
         }
 
         static int at(State s, int p, int what) {

@@ -293,39 +293,94 @@ public final class PromisesTest {
     }
 
     private static void read() {
+        readRefusals();
+        readComesBehindThoseTold();
+        readStopsAtOneThatMayNotBe();
+        readStopsAtEight();
+    }
+
+    private static void readRefusals() {
         AccentShop x = shop(TWO, "c0", 3, 0, 1, 4, 0, 1);
         due("read(-1)", x.read(-1), BAD);
         due("read(4)", x.read(4), BAD);
+        due("BAD is no finding", x.count(8), 0);
         due("read of a lost sheet", x.read(0), NULL);
         due("the finding", x.count(8), 1);
         due("hirings stay", x.count(4), 2);
+        due("hirings stay", x.at(3, 0, 5), 1);
+    }
+
+    private static void readComesBehindThoseTold() {
+        AccentShop x = shop(TWO, "c0", 3, 0, 1, 26, 0, 0);
+        due("home by those told", x.at(29, 0, 5), 0);
         x.sheet(0, 1, 8);
-        layAll(x, 0, 1, 29, 7, 7, 5, 0, 1, 0, 0);
+        layAll(x, 0, 1, 29, 7, 7, 26, 0, 1, 0, 0);
         due("two whole ones", x.read(0), 2);
-        due("in place of those told", x.at(4, 0, 5), 0);
-        due("in place of those told", x.at(5, 0, 5), 1);
+        due("with the two told", x.count(4), 4);
+        due("those told stay", x.at(2, 0, 5), 0);
+        due("those told stay", x.at(3, 0, 5), 1);
+        due("behind those of the same day", x.at(26, 0, 5), 1);
         due("out of its own", x.at(29, 0, 6), 1);
+        due("the last one read is undone", x.back(), 3);
+        due("and the one told is done again", x.at(26, 0, 5), 0);
+        x.sheet(1, 0, 0);
+        due("an empty one", x.read(1), 0);
+        due("an empty one", x.count(4), 3);
+        x.sheet(1, 2, 2);
+        due("none whole", x.read(1), 0);
+        due("none whole", x.count(4), 3);
         x.sheet(1, 0, 3);
-        layAll(x, 1, 0, 26, 0, 1);
+        layAll(x, 1, 0, 27, 0, 1);
         due("one, and no more items", x.read(1), 1);
-        due("so late that it is home", x.at(29, 0, 6), 0);
+        due("one, and no more items", x.count(4), 4);
+        due("the same again", x.read(1), 1);
+        due("the same again", x.count(4), 5);
+        for (int left = 4; left >= 0; left--) {
+            due("back", x.back(), left);
+        }
+        due("none is left", x.back(), NOT);
+    }
+
+    private static void readStopsAtOneThatMayNotBe() {
+        AccentShop x = shop(TWO, "c0", 0, 0, 0);
         x.sheet(1, 0, 12);
         layAll(x, 1, 0, 1, 0, 1, 2, -1, 0, 3, 0, 1);
         due("as long as each may be", x.read(1), 1);
-        for (int[] bad : new int[][] {{30, 0, 0}, {-1, 0, 0}, {0, 8, 0}, {0, 0, 8}, {0, 0, -1}}) {
-            x.sheet(2, 2, 6);
-            layAll(x, 2, 2, 0, 0, 0, bad[0], bad[1], bad[2]);
-            due("one of two", x.read(2), 1);
+        due("as long as each may be", x.count(4), 2);
+        for (int[] bad : new int[][] {{30, 0, 0}, {-1, 0, 0}, {0, 8, 0}, {0, -1, 0}, {0, 0, 8}, {0, 0, -1}}) {
+            AccentShop y = shop(TWO, "c0", 0, 0, 0);
+            y.sheet(2, 2, 9);
+            layAll(y, 2, 2, 0, 0, 0, bad[0], bad[1], bad[2], 5, 0, 1);
+            due("one of three", y.read(2), 1);
+            due("one of three", y.count(4), 2);
+            y.sheet(2, 2, 6);
+            layAll(y, 2, 2, bad[0], bad[1], bad[2], 5, 0, 1);
+            due("none of two", y.read(2), 0);
+            due("none of two", y.count(4), 2);
         }
+    }
+
+    private static void readStopsAtEight() {
+        AccentShop x = shop(TWO, "c0");
         x.sheet(3, 2, 60);
         due("eight at most", x.read(3), 8);
         due("eight at most", x.count(4), 8);
         due("no more", x.hire(0, 0, 0), FULL);
-        x.sheet(3, 2, 2);
-        due("none whole", x.read(3), 0);
-        due("none whole", x.count(4), 0);
-        x.sheet(3, 0, 0);
-        due("an empty one", x.read(3), 0);
+        due("none more, and not FULL", x.read(3), 0);
+        due("none more", x.count(4), 8);
+        due("no finding", x.count(8), 0);
+        due("back", x.back(), 7);
+        due("back", x.back(), 6);
+        layAll(x, 3, 2, 9, 0, 1, 9, 0, 0, 9, 0, 1);
+        due("room for two", x.read(3), 2);
+        due("eight again", x.count(4), 8);
+        due("the third did not come", x.at(9, 0, 5), 0);
+        due("the second undone", x.back(), 7);
+        due("the first came", x.at(9, 0, 5), 1);
+        x.sheet(3, 0, 3);
+        layAll(x, 3, 0, 30, 0, 0);
+        due("room, but it may not be", x.read(3), 0);
+        due("seven still", x.count(4), 7);
     }
 
     private static void atSpeech() {
