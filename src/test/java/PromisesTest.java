@@ -311,18 +311,23 @@ public final class PromisesTest {
     }
 
     private static void readComesBehindThoseTold() {
-        AccentShop x = shop(TWO, "c0", 3, 0, 1, 26, 0, 0);
+        AccentShop x = shop(TWO, "c0", 3, 0, 1, 15, 0, 0);
         due("home by those told", x.at(29, 0, 5), 0);
+        due("home by those told", x.astray(), 0);
+        due("home by those told", x.custom(16, 0, 0), 0);
         x.sheet(0, 1, 8);
-        layAll(x, 0, 1, 29, 7, 7, 26, 0, 1, 0, 0);
+        layAll(x, 0, 1, 29, 7, 7, 15, 0, 1, 0, 0);
         due("two whole ones", x.read(0), 2);
         due("with the two told", x.count(4), 4);
+        due("nothing is kept from before", x.at(29, 0, 5), 1);
+        due("nothing is kept from before", x.astray(), 1);
+        due("nothing is kept from before", x.custom(16, 0, 0), 1);
         due("those told stay", x.at(2, 0, 5), 0);
         due("those told stay", x.at(3, 0, 5), 1);
-        due("behind those of the same day", x.at(26, 0, 5), 1);
+        due("behind those of the same day", x.at(15, 0, 5), 1);
         due("out of its own", x.at(29, 0, 6), 1);
         due("the last one read is undone", x.back(), 3);
-        due("and the one told is done again", x.at(26, 0, 5), 0);
+        due("and the one told is done again", x.at(15, 0, 5), 0);
         x.sheet(1, 0, 0);
         due("an empty one", x.read(1), 0);
         due("an empty one", x.count(4), 3);
