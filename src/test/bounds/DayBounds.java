@@ -447,5 +447,12 @@ final class DayBounds {
         Doc.says(15, "CROWD; NONE.");
         Doc.due("nothing at all", new AccentShop().crowd(), Doc.NONE);
         Doc.due("two of three", Doc.shop(Doc.TWO, "p1;p0;p1").crowd(), 1);
+        AccentShop x = Doc.shop(Doc.TWO, "p0;p0;p1");
+        Doc.due("two of three", x.crowd(), 0);
+        Doc.due("and again", x.crowd(), 0);
+        x.wipe(1);
+        Doc.due("nobody now", x.crowd(), Doc.NONE);
+        Doc.typeAll(x, 1, "p1");
+        Doc.due("one alone now", x.crowd(), 1);
     }
 }

@@ -120,6 +120,12 @@ final class Doc {
         dueNot(what + " " + to, call.applyAsLong(to), refusal);
     }
 
+    /** No call may throw: what did is told with the sentence that it was checked for. */
+    static void threw(RuntimeException e) {
+        fault("threw " + e);
+        e.printStackTrace(System.out);
+    }
+
     /** Fails where words of the document stand under no check. */
     static void end() {
         endSentence();

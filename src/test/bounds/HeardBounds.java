@@ -239,7 +239,8 @@ final class HeardBounds {
         return x;
     }
 
-    private static int dueAsk(AccentShop x) {
+    /** ASK of one who is alone, with each of WHOSE told in its turn. */
+    private static int askByPeopleTold(AccentShop x, char sort) {
         int best = Doc.NONE;
         int least = 9;
         int whose = x.was(0, 0);
@@ -249,7 +250,7 @@ final class HeardBounds {
             for (int own = 0; own < 8; own++) {
                 if ((whose >> own & 1) == 1) {
                     x.wipe(1);
-                    Doc.typeAll(x, 1, "c" + own);
+                    Doc.typeAll(x, 1, "" + sort + own);
                     most = Math.max(most, ++alike[1 + x.at(day, 0, 6)]);
                 }
             }
@@ -267,8 +268,16 @@ final class HeardBounds {
         for (int day : new int[] {24, 25, 26, 27}) {
             Doc.due("two of whose", toldApart(day).was(0, 0), 3);
             Doc.due("told apart two days behind " + day, toldApart(day).ask(0), day + 2);
-            Doc.due("by people told", dueAsk(toldApart(day)), day + 2);
+            Doc.due("by people told", askByPeopleTold(toldApart(day), 'c'), day + 2);
         }
+        AccentShop second = Doc.shop("y39010;k38010;y30000", "p1", 0, 0, 2, 1, 0, 0);
+        second.hear(0, 0, 3, 1);
+        Doc.due("on the second day", second.ask(0), 1);
+        Doc.due("by people told", askByPeopleTold(second, 'p'), 1);
+        AccentShop eighth = Doc.shop("y02000;k90000;k90000;k90000;k90000;k90000;k90000;k02000", "p2");
+        eighth.hear(0, 0, 1, 2);
+        Doc.due("the first and the eighth of whose", eighth.was(0, 0), 129);
+        Doc.due("alike until the first goes on in its drawer", eighth.ask(0), 6);
         AccentShop three = Doc.shop("y00000;k90000;k00000", "p2");
         three.hear(0, 0, 1, 0);
         Doc.due("three of whose", three.was(0, 0), 7);
@@ -281,7 +290,14 @@ final class HeardBounds {
         none.hear(0, 0, 0, 1);
         Doc.due("none of whose", none.was(0, 0), 0);
         Doc.due("none of whose", none.ask(0), 0);
-        Doc.due("no accents", Doc.shop("", "c0").ask(0), 0);
+        AccentShop empty = Doc.shop("", "c0");
+        Doc.due("no accents", empty.ask(0), 0);
+        Doc.due("nor when it is asked again", empty.ask(0), 0);
+        AccentShop again = toldApart(27);
+        Doc.due("told apart on the last day", again.ask(0), 29);
+        Doc.due("and when it is asked again", again.ask(0), 29);
+        again.back();
+        Doc.due("not without the last hiring", again.ask(0), 0);
         Doc.says(24, "ASK.");
         AccentShop x = Doc.shop("k00000;k11100;k99970", "p0;c0", 0, 1, 2, 1, 1, 7, 27, 1, 2);
         x.hear(0, 1, 3, 1);

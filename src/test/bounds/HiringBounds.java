@@ -94,11 +94,13 @@ final class HiringBounds {
         AccentShop x = Doc.shop(Doc.TWO, "c0;c0", 5, 0, 0);
         x.sheet(3, 2, 6);
         Doc.layAll(x, 3, 2, 5, 0, 1, 29, 1, 7);
+        Doc.due("home until then", x.at(29, 0, 5) + x.astray() + x.custom(16, 0, 0), 0);
         Doc.due("two", x.read(3), 2);
         Doc.due("the day", x.at(4, 0, 5), 0);
         Doc.due("the day, behind the one told", x.at(5, 0, 5), 1);
         Doc.due("the last day", x.at(28, 1, 5), 0);
         Doc.due("the last day", x.at(29, 1, 5), 7);
+        Doc.due("out of its own since", x.at(29, 0, 5) + x.astray() + x.custom(16, 0, 0), 3);
         Doc.due("the sheet has its items", Doc.items(x, 3, 2, 6), "5 0 1 29 1 7");
     }
 

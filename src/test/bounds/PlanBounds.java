@@ -252,6 +252,7 @@ final class PlanBounds {
         dueTray(Doc.TWO, "c0", "0 1 1", 0, 0, 1);
         dueTray(Doc.TWO, "c5", "0 1 1");
         dueTray("g00000;k20000", "c0", "0 1 0", 0, 0, 7);
+        dueTray("g30000;k20000;g11000;y32000", "l0", "2 3 0", 27, 0, 4, 1, 0, 5);
         AccentShop x = Doc.shop("k00000;k00000", "p1", 3, 0, 1);
         x.tray(0);
         Doc.due("nothing is changed", x.person(0, 1) + x.at(3, 0, 5) + x.at(29, 0, 6), 2);
@@ -284,11 +285,11 @@ final class PlanBounds {
         dueTray("k00000;k00000", "p0", "0 1 1");
         AccentShop fault = Doc.shop("k00000;k00000;", "p0");
         Doc.due("two with a fault", row(fault), "-1 -1 -1");
-        AccentShop x = Doc.shop(Doc.TWO, "p0;p5");
+        AccentShop x = Doc.shop(Doc.TWO, "p0;p5;p6;p7");
         Doc.says(18, "TRAY: the first (what = 0), the other one (1), how many (2); NONE.");
         Doc.due("tray(0)", x.tray(0), 0);
         Doc.due("tray(1)", x.tray(1), 1);
-        Doc.due("tray(2)", x.tray(2), 1);
+        Doc.due("tray(2)", x.tray(2), 3);
         Doc.due("of none", row(new AccentShop()), "-1 -1 -1");
         Doc.says(18, "BAD.");
         Doc.edges("what", 0, 2, x::tray);

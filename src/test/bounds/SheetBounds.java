@@ -237,7 +237,11 @@ final class SheetBounds {
                 Doc.due("the last", x.lay(1, n % 3, n - 1, 8), 1);
             }
         }
-        Doc.due("as many as told last", x.lose(1), 60);
+        for (int n = 60; n >= 0; n--) {
+            Doc.due("of " + n, x.sheet(1, n % 3, n), n);
+            Doc.due("no such item", x.lay(1, n % 3, n, 1), Doc.INDEX);
+        }
+        Doc.due("as many as told last", x.lose(1), 0);
         Doc.says(27, "BAD: SHEET, FORM, above 60; SIZE.");
         Doc.edges("sheet", 0, 3, s -> x.sheet(s, 0, 1));
         Doc.edges("form", 0, 2, form -> x.sheet(0, form, 1));
@@ -425,6 +429,10 @@ final class SheetBounds {
             {0, 5, 0}, {-1, 0, 0}, {0, -1, 0}, {1, 1, Doc.MOST}, {Doc.MOST, 0, 1}, {0, Doc.MOST, 1}, {Doc.MOST, 0, Doc.MOST},
             {0, Doc.MOST, Doc.MOST}, {Doc.LEAST, 0, 1}, {0, Doc.LEAST, 1}, {0, 0, Doc.LEAST}, {Doc.LEAST, Doc.LEAST, Doc.LEAST},
             {Doc.MOST, Doc.MOST, Doc.LEAST}};
+        int[][] right = {{0, 0, 0}, {0, 0, 4}, {1, 0, 4}, {4, 0, 1}, {3, 0, 2}, {0, 3, 1}, {0, 2, 2}, {5, 0, 0}, {0, 4, 0}};
+        for (int[] r : right) {
+            Doc.due(r[2] + " from " + r[0] + " to " + r[1], twoRows().copy(0, r[0], 1, r[1], r[2]), 1);
+        }
         for (int[] w : wrong) {
             AccentShop y = twoRows();
             String what = w[2] + " from " + w[0] + " to " + w[1];
@@ -521,7 +529,7 @@ final class SheetBounds {
     }
 
     /** The digest by the document's words: a number that grows without an end, and the lowest 64 bits of it. */
-    private static BigInteger grown(AccentShop x) {
+    static BigInteger grown(AccentShop x) {
         Row h = new Row();
         for (int what = 0; what <= 7; what++) {
             h.and(x.count(what));
@@ -579,6 +587,10 @@ final class SheetBounds {
             String accents = "g01234;g98765;y00900;g90009;y12121;g09090;k55555;k01010".substring(0, 7 * n - 1);
             Doc.due("of " + n, Doc.shop(accents, "").digest(), grown(Doc.shop(accents, "")).longValue());
         }
+        for (int day : new int[] {0, 5, 6, 7, 19, 20, 21, 28, 29}) {
+            AccentShop x = Doc.shop("k00000;k99999", "p7", day, 0, 0);
+            Doc.due("one wears it from " + day + " on", x.digest(), grown(x).longValue());
+        }
         Doc.says(34, "of PEOPLE person() 0, 1, of DAYS 0, 7, 15, 29 at(the DAY, it, 0 to 7),");
         for (int n = 1; n <= 8; n++) {
             String people = "c1;p0;l1;c7;p3;l2;c0;p1".substring(0, 3 * n - 1);
@@ -588,6 +600,13 @@ final class SheetBounds {
         }
         Doc.says(34, "then becomes(), dress(it, 1, 12, 0 and 1), home(), was() 0, 1, ask(), custom(5, it), above, below;");
         Doc.due("of some", digestible().digest(), grown(digestible()).longValue());
+        AccentShop slow = Doc.shop(Doc.TWO, "p0;l0");
+        Doc.due("45 less 18 days for a plain one", slow.dress(0, 1, 12, 1), 27);
+        Doc.due("45 less 9 even days for a lord", slow.dress(1, 1, 12, 1), 36);
+        Doc.due("of slow ones", slow.digest(), grown(slow).longValue());
+        AccentShop late = Doc.shop("k98000;k99000;k00000", "p2");
+        Doc.due("a day later the other is as good", late.dress(0, 1, 12, 0) * 10 + late.dress(0, 1, 13, 0), 10);
+        Doc.due("of that", late.digest(), grown(late).longValue());
         AccentShop asked = Doc.shop("y00000;k90000;k00000;k99999", "p2;c2", 0, 1, 3);
         asked.hear(0, 0, 1, 0);
         Doc.due("one to ask on day 6", asked.ask(0), 6);
@@ -601,6 +620,13 @@ final class SheetBounds {
         Doc.due("beyond a long", grown.bitLength() > 64 ? 1 : 0, 1);
         Doc.due("its lowest 64 bits", digestible().digest(), grown.longValue());
         Doc.due("even of a new object", none.bitLength() > 64 ? 1 : 0, 1);
+        int below = 0;
+        for (int n = 1; n <= 8; n++) {
+            AccentShop some = Doc.shop(Doc.EIGHT.substring(0, 7 * n - 1), "");
+            below += grown(some).longValue() < 0 ? 1 : 0;
+            Doc.due("its lowest 64 bits, of " + n, some.digest(), grown(some).longValue());
+        }
+        Doc.due("some below 0, some not", below > 0 && below < 8 ? 1 : 0, 1);
         AccentShop x = digestible();
         long before = x.digest();
         x.lose(0);

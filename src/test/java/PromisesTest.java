@@ -1122,11 +1122,17 @@ public final class PromisesTest {
         return h;
     }
 
+    private static AccentShop digestible() {
+        return shop("g00000;y55555;g93939;k24680;y99999", "p0;c2;l4;p1;c7", 2, 0, 2, 4, 1, 0, 9, 3, 2);
+    }
+
     private static void digest() {
-        AccentShop x = shop("g00000;y55555;g93939;k24680;y99999", "p0;c2;l4;p1;c7", 2, 0, 2, 4, 1, 0, 9, 3, 2);
-        due("by calls", x.digest(), digestByCalls(x));
+        due("by calls", digestible().digest(), digestByCalls(digestible()));
+        AccentShop x = digestible();
         x.hear(4, 1, 0, 8);
-        due("by calls, one heard", x.digest(), digestByCalls(x));
+        AccentShop twin = digestible();
+        twin.hear(4, 1, 0, 8);
+        due("by calls, one heard", x.digest(), digestByCalls(twin));
         AccentShop asked = shop("y00000;k90000;k00000;k99999", "p2;c2", 0, 1, 3);
         asked.hear(0, 0, 1, 0);
         due("ask() is no 0", asked.ask(0), 6);
