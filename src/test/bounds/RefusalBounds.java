@@ -14,7 +14,7 @@ final class RefusalBounds {
     }
 
     /** Full in all that can be full, with a sheet of each form and a lost one. */
-    private static AccentShop full() {
+    static AccentShop full() {
         AccentShop x = Doc.shop("g01234;y98765;k55555;y00000;g99999;k12345;y54321;k90909", "p0;c1;l2;p3;c4;l5;p6;c7",
                 0, 0, 1, 3, 1, 0, 4, 2, 5, 9, 3, 6, 12, 4, 2, 15, 5, 1, 20, 6, 7, 28, 7, 0);
         for (int k = 0; k < 8; k++) {

@@ -1,4 +1,5 @@
 import java.math.BigInteger;
+import java.util.function.Supplier;
 
 /** Sheets, findings, counts and the digest; promises 27 to 34. */
 final class SheetBounds {
@@ -530,12 +531,20 @@ final class SheetBounds {
 
     /** The digest by the document's words: a number that grows without an end, and the lowest 64 bits of it. */
     static BigInteger grown(AccentShop x) {
+        return grown(() -> x);
+    }
+
+    /** The same, each part by a twin, so that none is asked more than it is good for. */
+    static BigInteger grown(Supplier<AccentShop> twins) {
         Row h = new Row();
+        AccentShop x = twins.get();
         for (int what = 0; what <= 7; what++) {
             h.and(x.count(what));
         }
         h.and(x.fault(0), x.fault(1));
-        for (int a = 0; a < x.count(0); a++) {
+        int accents = x.count(0);
+        int people = x.count(1);
+        for (int a = 0; a < accents; a++) {
             for (int what = 0; what <= 5; what++) {
                 h.and(x.accent(a, what));
             }
@@ -545,7 +554,8 @@ final class SheetBounds {
                 }
             }
         }
-        for (int p = 0; p < x.count(1); p++) {
+        for (int p = 0; p < people; p++) {
+            x = twins.get();
             h.and(x.person(p, 0), x.person(p, 1));
             for (int day : new int[] {0, 7, 15, 29}) {
                 for (int what = 0; what <= 7; what++) {
@@ -555,6 +565,7 @@ final class SheetBounds {
             h.and(x.becomes(p), x.dress(p, 1, 12, 0), x.dress(p, 1, 12, 1), x.home(p), x.was(p, 0), x.was(p, 1), x.ask(p),
                     x.custom(5, p, 0), x.custom(5, p, 1));
         }
+        x = twins.get();
         h.and(x.astray(), x.crowd(), x.tray(0), x.tray(1), x.tray(2), x.refuse(Doc.NONE), x.refuse(0), x.never(),
                 x.year(7, 6, 0), x.year(7, 6, 1));
         return h.sum;
@@ -573,6 +584,14 @@ final class SheetBounds {
     private static AccentShop digestible() {
         AccentShop x = Doc.shop("g00000;y55555;g93939;k24680;y99999", "p0;c2;l4;c7", 2, 0, 2, 4, 1, 0, 9, 3, 2);
         x.hear(4, 1, 0, 8);
+        return x;
+    }
+
+    private static AccentShop full(int hirings) {
+        AccentShop x = RefusalBounds.full();
+        for (int left = 8; left > hirings; left--) {
+            x.back();
+        }
         return x;
     }
 
@@ -627,6 +646,10 @@ final class SheetBounds {
             Doc.due("its lowest 64 bits, of " + n, some.digest(), grown(some).longValue());
         }
         Doc.due("some below 0, some not", below > 0 && below < 8 ? 1 : 0, 1);
+        for (int hirings = 8; hirings >= 0; hirings--) {
+            int left = hirings;
+            Doc.due("of as many as can be, with hirings", full(left).digest(), grown(() -> full(left)).longValue());
+        }
         AccentShop x = digestible();
         long before = x.digest();
         x.lose(0);
