@@ -12,7 +12,7 @@ public final class RobustTest {
         for (int run = 0; run < 60; run++) {
             wild(run);
         }
-        for (int run = 0; run < 60; run++) {
+        for (int run = 0; run < 90; run++) {
             refusals(run);
         }
         System.out.println(wrong == 0 ? "nothing was thrown, nothing changed by refusals" : wrong + " faults");
@@ -80,13 +80,13 @@ public final class RobustTest {
         }
     }
 
-    /** A twin that is spared the refused calls answers the others alike, to the end. */
+    /** A twin that is spared the refused calls answers the others alike, to the end (within 512 calls). */
     private static void refusals(int run) {
         AccentShop x = filled(new Random(run));
         AccentShop twin = filled(new Random(run));
         Random r = new Random(131L * run + 9);
         int finding = x.count(8);
-        for (int i = 0; i < 150; i++) {
+        for (int i = 0; i < 110; i++) {
             int which = r.nextInt(33);
             int[] a = {any(r), any(r), any(r), any(r), any(r)};
             long answer = call(x, which, a);
